@@ -188,6 +188,14 @@ final class DescriptionBoundsTest {
         Check.sentence("Promises 8, 9:", "Each rule has a counter, initially the number of atoms in its body");
         HornEngine x = Texts.engine("5:0,1,2,3;0:;1:;2:;3:;6:3;7:0;8:9,0,1,2;");
         orders(x, new int[] {0, 1, 2, 3, 7, 5, 6}, new int[] {1, 2, 3, 4, 6, 0, 5});
+        HornEngine gone = Texts.engine("0:;1:;5:0,1,2;");
+        Check.due("a counter that has come down to 1", gone.fired(2), -1);
+        gone.removeRule(2);
+        Check.due("its rule is gone", gone.fired(2), -1);
+        gone.addRule(6, 3);
+        orders(gone, new int[] {0, 1, 6}, new int[] {0, 1, 2});
+        gone.undo();
+        Check.due("a rule that fired is gone", gone.fired(2), -1);
     }
 
     private static void headsOnlyOnce() {
